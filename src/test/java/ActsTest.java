@@ -69,7 +69,7 @@ public final class ActsTest {
     }
 
     private static void refusals(ClapTogether x) {
-        int[][] none = {{7, 0}, {-1, 0}, {0, 3}, {0, -1}};
+        int[][] none = {{7, 0}, {-1, 0}, {0, 3}, {0, -1}, {1, 3}, {1, -1}, {6, Integer.MAX_VALUE}, {6, Integer.MIN_VALUE}};
         for (int[] call : none) {
             x.act(0, 0, 5);
             check.due("a trace", x.trace(0), 10);

@@ -141,6 +141,7 @@ public final class EveningTest {
         check.due("m 31", x.few(31), -6);
         check.due("m -1", x.few(-1), -6);
         check.due("nobody", x.few(1), -5);
+        check.due("m 30 may be", x.few(30), -5);
         for (int i = 0; i < 4; i++) x.person(0, i, 50, 1, 0);
         check.due("one", x.few(1), 1);
         check.due("two", x.few(2), 3);
@@ -154,12 +155,17 @@ public final class EveningTest {
         check.due("the one that brings one more", x.few(3), 8);
         x.person(1, 40, 1, 1, 61);
         check.due("not within 60 ticks", x.few(6), -5);
-        check.due("counted -5", x.status(15), 4);
+        check.due("counted -5", x.status(15), 5);
         x.force(Check.laws(x, "catch 99"));
         check.due("by the laws in force", x.few(3), 6);
         x.tick(60);
         check.due("none of those that are done", x.many(3), 1);
         check.due("FIRST comes by itself", x.few(1), 0);
+        x = new ClapTogether();
+        x.person(1, 0, 1, 1, 59);
+        check.due("in the last of 60 ticks", x.few(1), 0);
+        x.alter(0, 2, 60);
+        check.due("behind the last of 60 ticks", x.few(1), 1);
     }
 
     private static void fewByBits() {
@@ -258,6 +264,19 @@ public final class EveningTest {
             check.due("spread " + n, x.spread(n), greatest - least);
         }
         check.due("seed as it was", x.status(4), Integer.MAX_VALUE - 3);
+        spreadOf100();
+    }
+
+    /** One that would clap for more than 100 ticks, if the FADING one goes on for a tick by its draw. */
+    private static void spreadOf100() {
+        ClapTogether x = new ClapTogether();
+        x.force(Check.laws(x, "catch 19;stop 0;tire 5"));
+        x.person(5, 0, 99, 1, 0);
+        x.person(1, 1, 2, 1, 0);
+        x.person(2, 8, 99, 1, 0);
+        x.begin(0);
+        check.due("with it", x.length(0, 200), 102);
+        check.due("100 ticks less 4", x.spread(20), 96);
     }
 
     private static void evenings9999() {

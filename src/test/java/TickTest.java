@@ -87,6 +87,7 @@ public final class TickTest {
         x = hall("catch 0", 47);
         x.person(2, 0, 99, 1, 0);
         check.due("HEARD must be above 0", x.tick(5), 1);
+        check.due("so it is quiet", mood(x, 1), 0);
 
         x = hall("", 3);
         x.person(2, 0, 99, 1, 0);
