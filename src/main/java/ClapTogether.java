@@ -86,7 +86,7 @@ public final class ClapTogether {
     private static final int STEPS = 2;
     private static final int ACT_COUNT = 3;
     private static final int TRACE_LIMIT = 20;
-    private static final int DEEPEST_ACT = 40;
+    private static final int DEEPEST_ACT = 20;
 
     private final Shelves shelves = new Shelves();
     private final Crowd crowd = new Crowd();
@@ -1091,23 +1091,25 @@ public final class ClapTogether {
         private int call(int from, int act, int x, int depth) {
             int owner = from;
             while (owner != NONE && bodyOf(owner, act) == 0) owner = kindAbove(owner);
-            if (owner == NONE || depth > DEEPEST_ACT) return 0;
-            int deeper = depth + 1;
-            int above = kindAbove(owner);
-            int body = bodyOf(owner, act);
-            note(body);
+            if (owner == NONE || depth >= DEEPEST_ACT) return 0;
+            note(bodyOf(owner, act));
+            return answerOf(bodyOf(owner, act), kindAbove(owner), x, depth + 1);
+        }
+
+        /** What a body answers: it calls by the person's kind, or by the kind above its own. */
+        private int answerOf(int body, int above, int x, int depth) {
             switch (body) {
                 case 10: return x + number;
-                case 11: return call(kind, HEARS, x, deeper) * 2;
-                case 12: return call(kind, BEGINS, x, deeper) ^ call(kind, HEARS, x - pace, deeper);
-                case 20: return call(above, BEGINS, x, deeper) + pace;
-                case 30: return call(above, HEARS, x, deeper) * 3;
-                case 40: return call(above, HEARS, x + 1, deeper);
-                case 50: return call(above, STEPS, x, deeper) - number;
-                case 51: return -call(above, BEGINS, x, deeper);
-                case 60: return call(above, STEPS, x, deeper) ^ 5;
-                case 70: return call(above, BEGINS, x, deeper) * 2;
-                case 71: return call(above, HEARS, x - pace, deeper);
+                case 11: return call(kind, HEARS, x, depth) * 2;
+                case 12: return call(kind, BEGINS, x, depth) ^ call(kind, HEARS, x - pace, depth);
+                case 20: return call(above, BEGINS, x, depth) + pace;
+                case 30: return call(above, HEARS, x, depth) * 3;
+                case 40: return call(above, HEARS, x + 1, depth);
+                case 50: return call(above, STEPS, x, depth) - number;
+                case 51: return -call(above, BEGINS, x, depth);
+                case 60: return call(above, STEPS, x, depth) ^ 5;
+                case 70: return call(above, BEGINS, x, depth) * 2;
+                case 71: return call(above, HEARS, x - pace, depth);
                 default: return 0;
             }
         }
