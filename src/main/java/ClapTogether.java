@@ -546,7 +546,7 @@ public final class ClapTogether {
 
     private static boolean isKindOrUnder(int kind, int wanted) {
         int at = kind;
-        while (at != NONE && at != wanted) at = kindAbove(at);
+        for (int up = 0; up < KINDS && at != NONE && at != wanted; up++) at = kindAbove(at);
         return at == wanted;
     }
 
@@ -975,7 +975,7 @@ public final class ClapTogether {
             size = shelves.giveInts(s, signs);
             place = 0;
             boolean stands = readOne();
-            while (stands && place < size) stands = pass(';') && readOne();
+            for (int more = 0; more < ROW_LIMIT && stands && place < size; more++) stands = pass(';') && readOne();
             return stands ? NONE : place;
         }
 
@@ -1090,7 +1090,7 @@ public final class ClapTogether {
         /** Runs the body that a kind, or the next kind above it, has of an act. */
         private int call(int from, int act, int x, int depth) {
             int owner = from;
-            while (owner != NONE && bodyOf(owner, act) == 0) owner = kindAbove(owner);
+            for (int up = 0; up < KINDS && owner != NONE && bodyOf(owner, act) == 0; up++) owner = kindAbove(owner);
             if (owner == NONE || depth >= DEEPEST_ACT) return 0;
             note(bodyOf(owner, act));
             return answerOf(bodyOf(owner, act), kindAbove(owner), x, depth + 1);

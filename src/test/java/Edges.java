@@ -30,8 +30,17 @@ final class Edges {
             method.invoke(null);
             ran++;
         }
-        edge = tests.getName();
+        begin(tests.getName());
         due("has edges", ran > 0 ? 1 : 0, 1);
+        end();
+    }
+
+    /** What is compared from here on, and its end. */
+    static void begin(String what) {
+        edge = what;
+    }
+
+    static void end() {
         check.end();
     }
 

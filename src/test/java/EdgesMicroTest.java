@@ -194,21 +194,37 @@ public final class EdgesMicroTest {
         }
     }
 
-    private static void p40TheFirstThatIsnt() {
+    private static ClapTogether eightHear() {
         ClapTogether x = eight();
         Edges.clapper(x, 20);
         x.tick(1);
+        return x;
+    }
+
+    private static int[] sumsOfEight() {
+        ClapTogether x = eightHear();
         int[] sums = new int[8];
         for (int i = 0; i < 8; i++) sums[i] = x.sum(i);
+        return sums;
+    }
+
+    private static void p40TheFirstThatIsnt() {
+        int[] sums = sumsOfEight();
         for (int wrong = 0; wrong <= 8; wrong++) {
             int want = wrong < 8 ? wrong : -1;
             for (int by = -1; by <= 1; by += 2) {
+                ClapTogether x = eightHear();
                 Check.ints(x, 0, sums);
                 if (wrong < 8) x.set(0, wrong, sums[wrong] + by);
                 if (wrong < 7) x.set(0, 7, -5);
                 Edges.answers(want, x, y -> y.judge(0));
             }
         }
+    }
+
+    private static void p40FewerAndMoreElementsThanMicrophones() {
+        int[] sums = sumsOfEight();
+        ClapTogether x = eightHear();
         Check.ints(x, 0, java.util.Arrays.copyOf(sums, 7));
         Edges.answers(7, x, y -> y.judge(0));
         Check.ints(x, 0, java.util.Arrays.copyOf(sums, 9));

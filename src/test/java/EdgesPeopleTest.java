@@ -145,6 +145,17 @@ public final class EdgesPeopleTest {
         for (int i = 0; i < 10; i++) Edges.due("at first " + i, x.personOf(i / 5, 5 + i % 5), 0);
     }
 
+    private static void p10NoMoreThanTheElements() {
+        ClapTogether x = new ClapTogether();
+        Check.ints(x, 0, 1, 5, 6, 7, 8, 1, 6, 6, 7, 8, 1, 7, 6, 7, 8, 1, 8, 6, 7, 8);
+        Edges.answers(1, x, y -> y.people(0, 0, 5));
+        Edges.due("people", x.status(0), 1);
+        Edges.answers(2, x, y -> y.people(0, 5, 10));
+        Edges.due("people", x.status(0), 3);
+        Edges.answers(0, x, y -> y.people(0, 20, 0));
+        Edges.due("people", x.status(0), 3);
+    }
+
     private static void p10UntilOneThatCantBeOne() {
         int[][] wrong = {{0, -1}, {0, 7}, {1, -1}, {1, 48}, {2, -1}, {2, 100}, {3, 0}, {3, 10}, {4, -1}, {4, 100},
             {1, 20}, {1, 21}};

@@ -1,25 +1,24 @@
 import java.util.Random;
 
-/** No call throws, whatever it is given; a refused one changes nothing but how many were refused. */
+/** No call throws, whatever it is given; a run without its refused calls leads to the same hall. */
 public final class SturdyTest {
     private static final int[] ODD = {
         -1, 0, 1, 2, 3, 5, 6, 7, 8, 9, 10, 20, 29, 30, 31, 47, 48, 60, 99, 100, 101, 200, 201, -2, -5,
         Integer.MAX_VALUE, Integer.MIN_VALUE, Integer.MAX_VALUE - 1, 1 << 16,
     };
-    private static final Check check = new Check();
+    private static final int ALL_CALLS = 43;
+    private static final int LAWS = 13;
+    // with a look at the seven counts behind each, below the 512 calls of one object
+    private static final int RUN = 50;
     private static Random random;
 
     public static void main(String[] args) {
-        for (int run = 0; run < 150; run++) {
-            random = new Random(run);
-            ClapTogether x = new ClapTogether();
-            if (run % 3 != 0) furnish(x);
-            for (int call = 0; call < 400; call++) {
-                callOne(x, random.nextInt(43), run);
-            }
+        for (int run = 0; run < 600; run++) withoutRefused(run);
+        for (int run = 0; run < 200; run++) {
+            Edges.begin("run " + run);
+            Edges.due("the same again", answersOf(run), answersOf(run));
         }
-        for (int run = 0; run < 20; run++) check.due("the same again", answersOf(run), answersOf(run));
-        check.end();
+        Edges.end();
     }
 
     private static int any() {
@@ -37,51 +36,58 @@ public final class SturdyTest {
         Check.ints(x, 6, 1, 20, 3, 4, 5);
     }
 
-    private static long answersOf(int run) {
-        random = new Random(run);
+    private static ClapTogether hallOf(int run) {
         ClapTogether x = new ClapTogether();
-        furnish(x);
+        random = new Random(run);
+        if (run % 3 != 0) furnish(x);
+        return x;
+    }
+
+    private static long answersOf(int run) {
+        ClapTogether x = hallOf(run);
         long all = 0;
-        for (int call = 0; call < 200; call++) all = all * 31 + callAny(x, random.nextInt(43));
+        for (int call = 0; call < 400; call++) all = all * 31 + callAny(x, random.nextInt(ALL_CALLS));
         return all;
     }
 
-    /** A sum over what can be seen of an object without a refusal. */
-    private static long lookOf(ClapTogether x) {
-        long look = 0;
-        for (int what = 0; what < 6; what++) look = look * 31 + x.status(what);
-        for (int person = 0; person < x.status(0); person++) {
-            for (int what = 0; what < 10; what++) look = look * 31 + x.personOf(person, what);
+    /** Which calls of a run are refused, each by a refusal of its own that is counted once. */
+    private static boolean[] refusedOf(int run) {
+        ClapTogether x = hallOf(run);
+        boolean[] refused = new boolean[RUN];
+        int[] counts = new int[8];
+        for (int i = 1; i <= 7; i++) counts[i] = x.status(10 + i);
+        for (int call = 0; call < RUN; call++) {
+            int which = random.nextInt(ALL_CALLS);
+            long answer = callAny(x, which);
+            for (int i = 1; i <= 7; i++) {
+                int more = x.status(10 + i) - counts[i];
+                counts[i] += more;
+                if (more == 0) continue;
+                Edges.due("call " + call + ", once", more, 1);
+                Edges.due("call " + call + ", one refusal", refused[call] ? 1 : 0, 0);
+                Edges.due("call " + call + " answers it", -answer % 10, i);
+                refused[call] = true;
+            }
         }
-        for (int laws = 0; laws < x.status(1); laws++) {
-            for (int i = 0; i < 7; i++) look = look * 31 + x.law(laws, i);
-        }
-        for (int micro = 0; micro < x.status(2); micro++) look = look * 31 + x.sum(micro) * 50 + x.gloved(micro);
-        for (int s = 0; s < 8; s++) {
-            look = look * 31 + x.holds(s);
-            for (int i = 0; i < 12; i++) look = look * 31 + x.element(s, i);
-        }
-        return look * 31 * 31 + x.hits() * 31 + x.step();
+        return refused;
     }
 
-    private static void callOne(ClapTogether x, int which, int run) {
-        int[] refused = new int[7];
-        for (int i = 0; i < 7; i++) refused[i] = x.status(11 + i);
-        long before = lookOf(x);
-        int fault = x.fault();
-        long answer = callAny(x, which);
-        int grown = 0;
-        int as = 0;
-        for (int i = 0; i < 7; i++) {
-            int more = x.status(11 + i) - refused[i];
-            grown += more;
-            if (more == 1) as = i + 1;
+    private static void withoutRefused(int run) {
+        Edges.begin("run " + run);
+        boolean[] refused = refusedOf(run);
+        ClapTogether with = hallOf(run);
+        long[] answers = new long[RUN];
+        for (int call = 0; call < RUN; call++) answers[call] = callAny(with, random.nextInt(ALL_CALLS));
+        ClapTogether without = hallOf(run);
+        ClapTogether aside = new ClapTogether();
+        for (int call = 0; call < RUN; call++) {
+            int which = random.nextInt(ALL_CALLS);
+            // refused laws() are made all the same: they may change the FAULT
+            boolean isMade = !refused[call] || which == LAWS;
+            long answer = callAny(isMade ? without : aside, which);
+            if (isMade) Edges.due("call " + call, answer, answers[call]);
         }
-        check.due("refusals counted by one call, run " + run, grown <= 1 ? 1 : 0, 1);
-        if (grown == 0) return;
-        check.due("the refusal is answered, run " + run + ", call " + which, -answer % 10, as);
-        check.due("nothing changes, run " + run + ", call " + which, lookOf(x), before);
-        if (which != 13) check.due("nor the fault", x.fault(), fault);
+        Edges.alike("behind the run", with, without);
     }
 
     private static long callAny(ClapTogether x, int which) {
